@@ -706,7 +706,7 @@ public final class HoseDynasty {
         }
 
         int footOf(int way) {
-            return headOf(way ^ 1);
+            return (way & 1) == 0 ? pick(foot, way >> 1) : pick(head, way >> 1);
         }
 
         /** Whether a WAY may come behind another one. */
@@ -1512,6 +1512,8 @@ public final class HoseDynasty {
 
         private final House house;
         private final Water water;
+        // by WAY: the WAYS that FIT behind it (bits), by the COLLARS that are told or only tried
+        private final int[] followers = new int[WAYS];
         // by the set of PIECES used and the last WAY: how much can be joined behind it at the most
         private final int[] longest = new int[SETS * WAYS];
         private boolean chainKnown;
@@ -1562,7 +1564,20 @@ public final class HoseDynasty {
             chainKnown = true;
         }
 
+        private void fillFollowers() {
+            for (int way = 0; way < 2 * house.pieces && way < WAYS; way++) {
+                int bits = 0;
+                for (int coming = 0; coming < 2 * house.pieces; coming++) {
+                    if (house.follows(way, coming)) {
+                        bits |= 1 << coming;
+                    }
+                }
+                followers[way] = bits;
+            }
+        }
+
         private int longestNow() {
+            fillFollowers();
             for (int used = (1 << house.pieces) - 1; used > 0; used--) {
                 for (int way = 0; way < 2 * house.pieces; way++) {
                     if (bit(used, way >> 1) == 1) {
@@ -1598,7 +1613,7 @@ public final class HoseDynasty {
         }
 
         private boolean canFollow(int used, int last, int way) {
-            return bit(used, way >> 1) == 0 && (last == NONE || house.follows(last, way));
+            return bit(used, way >> 1) == 0 && (last == NONE || bit(pick(followers, last), way) == 1);
         }
 
         void findCollar() {
@@ -1634,6 +1649,7 @@ public final class HoseDynasty {
             }
             shortFire = fire;
             shortMany = NONE;
+            fillFollowers();
             Arrays.fill(met, 0L);
             searchShort(night, 0, 0, NONE, night.hope, 0);
         }

@@ -682,6 +682,22 @@ public final class Model {
         return told(shortest(f), k);
     }
 
+    /** How long the longest row behind such a thread is; below 0: any thread. */
+    private int deepest(int used, int thread) {
+        int best = 0;
+        for (int p = 0; p < pieces.size(); p++) {
+            if ((used >> p & 1) == 1) continue;
+            Piece piece = pieces.get(p);
+            if (thread < 0 || fit(thread, piece.head)) {
+                best = Math.max(best, piece.length + deepest(used | 1 << p, piece.foot));
+            }
+            if (thread < 0 || fit(thread, piece.foot)) {
+                best = Math.max(best, piece.length + deepest(used | 1 << p, piece.head));
+            }
+        }
+        return best;
+    }
+
     private List<Piece> joinerOf;
     private final int[] joinerKnown = new int[2];
 
@@ -694,8 +710,7 @@ public final class Model {
             for (int b = a + 1; b < 10; b++) {
                 if (fit(a, b)) continue;
                 collars.add(new Collar(a, b));
-                known = null;
-                int length = sum(longest());
+                int length = deepest(0, -1);
                 collars.remove(collars.size() - 1);
                 if (length > best) {
                     best = length;
@@ -703,7 +718,6 @@ public final class Model {
                 }
             }
         }
-        known = null;
         joinerOf = pieces;
         joinerKnown[0] = best;
         joinerKnown[1] = pair;

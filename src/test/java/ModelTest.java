@@ -313,7 +313,7 @@ public final class ModelTest {
     }
 
     public static void main(String[] arguments) throws IllegalAccessException {
-        int runs = arguments.length > 0 ? Integer.parseInt(arguments[0]) : 100;
+        int runs = arguments.length > 0 ? Integer.parseInt(arguments[0]) : 300;
         long from = arguments.length > 1 ? Long.parseLong(arguments[1]) : 0;
         int bad = 0;
         for (long seed = from; seed < from + runs; seed++) {
