@@ -1692,8 +1692,8 @@ public final class HoseDynasty {
         int mostPairs() {
             int all = (1 << house.pieces) - 1;
             for (int set = 1; set <= all && set < SETS; set++) {
-                int one = Integer.numberOfTrailingZeros(set);
-                int rest = set & (set - 1);
+                int one = leastOf(set);
+                int rest = set & ~(1 << one);
                 int best = pick(pairs, rest);
                 for (int other = one + 1; other < house.pieces; other++) {
                     if (bit(rest, other) == 1 && areFit(one, other)) {
@@ -1703,6 +1703,15 @@ public final class HoseDynasty {
                 pairs[set] = best;
             }
             return pick(pairs, all);
+        }
+
+        private static int leastOf(int set) {
+            for (int p = 0; p < PIECES; p++) {
+                if (bit(set, p) == 1) {
+                    return p;
+                }
+            }
+            return 0;
         }
 
         private boolean areFit(int one, int other) {
@@ -1732,7 +1741,6 @@ public final class HoseDynasty {
             price = w;
             rests = 0;
             firstRest = NONE;
-            spent = 0;
             fillArrives(night);
             for (int gave = 0; gave <= none; gave++) {
                 for (int took = 0; took <= none; took++) {

@@ -608,6 +608,12 @@ public final class PromiseTest {
         HoseDynasty turned = of("piece 3 0 1 0;piece 3 0 2 0;collar 3 4;");
         due("the first one must be turned", turned.chained(0), 1);
         due("the second one as told", turned.chained(1), 2);
+        HoseDynasty middle = of("piece 3 0 1 0;piece 3 5 0 0;piece 3 1 6 0;");
+        int[] ways = {2, 0, 4, -1};
+        for (int k = 0; k < ways.length; k++) {
+            due("the first piece in the middle: chained(" + k + ")", middle.chained(k), ways[k]);
+        }
+        due("one of length 1", of("piece 1 0 0 0;").chain(1), 1);
         throwsUnfit("chain(2)", () -> x.chain(2));
         throwsUnfit("chain(-1)", () -> x.chain(-1));
         throwsUnfit("chained(-1)", () -> x.chained(-1));
@@ -705,7 +711,10 @@ public final class PromiseTest {
         book(x, "");
         due("at the worst 60 at place 0, 30 at 1, 33 at 2", x.look(0), 1);
         due("at the worst", x.look(1), 30);
-        work(x, "lift;lift;lift;");
+        work(x, "lift;");
+        book(x, "2 20;");
+        due("a place that was of the row", x.leaks(0), 0);
+        work(x, "lift;lift;");
         due("an empty row", x.leaks(0), 0);
         due("an empty row", x.look(0), -1);
         throwsUnfit("leaks(2)", () -> x.leaks(2));
@@ -747,8 +756,14 @@ public final class PromiseTest {
         throwsUnfit("sure(0, -1, 0)", () -> x.sure(0, -1, 0));
         throwsUnfit("sure(0, 0, 2)", () -> x.sure(0, 0, 2));
         throwsUnfit("sure(0, 0, -1)", () -> x.sure(0, 0, -1));
-        HoseDynasty six = of("piece 1 0 0 0;piece 1 0 0 0;piece 1 0 0 0;piece 1 0 0 0;piece 1 0 0 0;piece 1 0 0 0;fire 6 60;",
+        HoseDynasty six = of("piece 1 0 0 0;piece 1 0 0 0;piece 1 0 0 0;piece 1 0 0 0;piece 1 0 0 0;piece 1 0 0 0;fire 6 60;fire 6 99;",
             "lay 0;lay 1;lay 2;lay 3;lay 4;lay 5;");
+        work(six, "again 9[burst 0;];hope 99;");
+        law(six, "flow - most[0, burst - 9]");
+        due("a tenth burst", six.sure(1, 4, 0), 3);
+        due("a tenth burst", six.sure(1, 4, 1), 4);
+        six.undo();
+        law(six, "flow-burst");
         due("13 to the sixth", six.sure(0, 3, 0), 4826809);
         due("16 to the sixth", six.sure(0, 3, 1), 16777216);
     }
@@ -764,6 +779,13 @@ public final class PromiseTest {
         due("all the same", x.street(0, 2, 0), 6);
         due("the first", x.street(0, 2, 1), 1);
         due("below 0", x.street(0, 2, 2), -4);
+        work(x, "bend 1 1;bend 0 1;");
+        due("either has one to take", x.street(60, 1, 0), 4);
+        due("the first", x.street(60, 1, 1), 0);
+        work(x, "bend 0 0;");
+        due("one bend is any", x.street(60, 1, 1), 1);
+        work(x, "bend 1 9;");
+        due("9 bends may be one more", x.street(60, 1, 0), 2);
         work(x, "bend 1 0;");
         due("the house has none to take", x.street(60, 1, 1), 8);
         due("only the street pays", x.street(60, 1, 2), 59);
@@ -940,6 +962,19 @@ public final class PromiseTest {
         due("no image keeps the book", x.told(9), 1);
         due("undo", x.undo(), 0);
         due("the row", x.told(4), 0);
+        work(x, "lay 2;");
+        work(x, "lay 3;");
+        x.image();
+        x.undo();
+        x.undo();
+        work(x, "lay 1;");
+        work(x, "lift;lift;");
+        due("restore", x.restore(), 0);
+        due("the row", x.told(5), 4 + 8);
+        due("undo goes back to the image's nights", x.undo(), 1);
+        due("the row", x.told(5), 4);
+        due("undo", x.undo(), 0);
+        due("the row", x.told(5), 0);
         work(x, "lift;");
         due("none", x.restore(), -1);
         due("nothing was done by it", x.told(10), 1);
