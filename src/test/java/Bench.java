@@ -215,6 +215,23 @@ final class Bench {
         return text.toString();
     }
 
+    /** All that a question could change, read before and behind it; nothing is used up. */
+    static String now(HoseDynasty x) {
+        StringBuilder text = new StringBuilder();
+        tellNight(x, text);
+        for (int k = 0; k < x.told(4); k++) {
+            text.append(x.row(k)).append(' ').append(x.behind(k)).append(' ');
+        }
+        for (int f = 0; f < x.told(2); f++) {
+            text.append(x.fire(f, 2)).append(' ');
+        }
+        for (int thread = 0; thread <= 9; thread++) {
+            text.append(x.kin(thread)).append(' ');
+        }
+        text.append(x.told(6)).append(' ').append(x.told(9)).append(' ').append(x.told(10)).append(' ').append(x.fault());
+        return text.toString();
+    }
+
     private static void tellHouse(HoseDynasty x, StringBuilder text) {
         for (int what : new int[] {0, 1, 2, 9}) {
             text.append(x.told(what)).append(' ');

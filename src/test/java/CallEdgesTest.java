@@ -1,4 +1,5 @@
 import java.lang.reflect.Method;
+import java.util.Arrays;
 import java.util.NoSuchElementException;
 
 /** The edges that promises 1 to 39 name: the last value that is allowed and the first that is not, empty, full, refused. */
@@ -246,6 +247,40 @@ public final class CallEdgesTest {
         Bench.dueText("a HOUSE behind another", Bench.all(y), Bench.all(Bench.of(Bench.FULL)));
     }
 
+    static void promise03_whatWasAskedOfTheOldHouse() {
+        HoseDynasty x = Bench.of("piece 30 1 1 0;piece 30 2 2 0;piece 5 1 1 0;fire 0 1;");
+        due("CHAIN", x.chain(0), 35);
+        due("COLLAR", x.joiner(1), 12);
+        due("SHORT", x.brief(0), 0);
+        due("kin", x.kin(3), 8);
+        Bench.house(x, "piece 7 3 3 0;piece 8 4 5 0;collar 3 9;fire 8 1;");
+        due("CHAIN", x.chain(0), 8);
+        due("of one", x.chain(1), 1);
+        due("PIECE 1", x.chained(0), 2);
+        due("no second one", x.chained(1), NONE);
+        due("COLLAR", x.joiner(0), 15);
+        due("COLLAR", x.joiner(1), 34);
+        due("SHORT", x.brief(0), 1);
+        due("SHORT", x.briefly(0, 0), 2);
+        due("kin", x.kin(3), 8 + 512);
+    }
+
+    static void promise04_whatWasAskedOfTheOldLaw() {
+        HoseDynasty x = Bench.of("piece 7 3 3 0;fire 7 60;");
+        due("SHORT", x.brief(0), 1);
+        Bench.law(x, "flow - 1");
+        due("SHORT by another LAW", x.brief(0), NONE);
+        Bench.work(x, "hope 61;");
+        due("SHORT by another hope", x.brief(0), 1);
+        x.undo();
+        due("SHORT behind undo()", x.brief(0), NONE);
+        x.image();
+        Bench.work(x, "hope 61;");
+        due("SHORT by another hope", x.brief(0), 1);
+        x.restore();
+        due("SHORT behind restore()", x.brief(0), NONE);
+    }
+
     static void promise03_17WorksByTwoHouses() {
         HoseDynasty x = new HoseDynasty();
         for (int k = 0; k < 16; k++) {
@@ -430,16 +465,43 @@ public final class CallEdgesTest {
         Bench.keeps("undo() of none", HoseDynasty::new, HoseDynasty::undo);
     }
 
+    private static final String[] NIGHTS = {
+        "hour;lay 0;lay 1;turn 5;bend 0 2;bend 3 7;burst 1;burst 4;hope 70;hour;",
+        "lift;lift;turn 0;turn 5;turn 4;lay 3;bend 0 0;bend 5 9;patch 1;burst 2;burst 4;hope 99;hour;hour;",
+        "lift;lay 4;lay 5;turn 2;bend 3 0;patch 4;patch 2;hope 0;again 12[hour;];lift;lift;lift;",
+    };
+
+    /** A WORK and its undo() against an object on which it never was done. */
     static void promise08_aWorkAndItsUndo() {
-        HoseDynasty same = Bench.rich();
-        HoseDynasty x = Bench.rich();
-        x.house(0);
-        same.house(0);
-        Bench.house(x, Bench.FULL);
-        Bench.house(same, Bench.FULL);
-        Bench.work(x, "hour;lay 0;lay 1;turn 5;turn 4;bend 3 9;burst 2;burst 1;hope 99;hour;");
-        due("undo", x.undo(), 0);
-        Bench.dueText("a WORK undone", Bench.all(x), Bench.all(same));
+        HoseDynasty x = Bench.of(Bench.FULL, NIGHTS);
+        for (int many = 2; many >= 0; many--) {
+            due("undo", x.undo(), many);
+            HoseDynasty same = Bench.of(Bench.FULL, Arrays.copyOf(NIGHTS, many));
+            if (many > 0) {
+                same.image();
+                same.restore();
+            }
+            Bench.dueText("a WORK undone", Bench.now(x), Bench.now(same));
+        }
+        due("what is left of three WORKS", Bench.all(x).equals(Bench.all(Bench.of(Bench.FULL))), true);
+    }
+
+    /** An IMAGE brought back against an object that never went on from there. */
+    static void promise37_anImageAndWhatFollowed() {
+        for (int many = 0; many <= 2; many++) {
+            String[] ahead = Arrays.copyOf(NIGHTS, many);
+            HoseDynasty x = Bench.of(Bench.FULL, ahead);
+            x.image();
+            for (int k = 0; k < many; k++) {
+                x.undo();
+            }
+            Bench.work(x, "lay 5;turn 0;hope 1;");
+            Bench.work(x, "burst 3;bend 1 1;hour;");
+            Bench.work(x, "lift;lift;");
+            due("restore", x.restore(), 0);
+            HoseDynasty same = Bench.of(Bench.FULL, ahead);
+            Bench.dueText("an IMAGE brought back", Bench.allButRefused(x), Bench.allButRefused(same));
+        }
     }
 
     static void promise08_aFaultOrMinus20IsNotUndone() {
@@ -595,6 +657,20 @@ public final class CallEdgesTest {
                 a[which] = n;
                 x.would(a[0], a[1], a[2], a[3], a[4], a[5], a[6], a[7], a[8]);
             });
+        }
+    }
+
+    static void promise15_eachByItsName() {
+        String[] names = {"flow", "loss", "length", "bends", "burst", "place", "turned", "hope", "piece"};
+        int[] values = {98, 8, 29, 7, 6, 5, 1, 97, 4};
+        int[] high = {99, 9, 30, 9, 9, 5, 1, 99, 5};
+        int[] low = {0, 0, 1, 0, 0, 0, 0, 0, 0};
+        HoseDynasty x = new HoseDynasty();
+        for (int k = 0; k < names.length; k++) {
+            Bench.law(x, names[k]);
+            for (int[] a : new int[][] {values, high, low}) {
+                due(names[k], x.would(a[0], a[1], a[2], a[3], a[4], a[5], a[6], a[7], a[8]), a[k]);
+            }
         }
     }
 
@@ -994,6 +1070,22 @@ public final class CallEdgesTest {
         due("the fewest of 20 that wrap", x.span(Integer.MAX_VALUE - 9, 20, 7, 3, 0, 0), fewest);
         due("the most of 20 that wrap", x.span(Integer.MAX_VALUE - 9, 20, 7, 3, 1, 0), most);
         due("one of them", x.span(5, 1, 7, 3, 0, 0), Integer.bitCount(x.year(5, 7, 3, 1)));
+        for (int first = 0; first < 9; first++) {
+            int out = 0;
+            for (int k = 0; k < 6; k++) {
+                out += x.span(first + k, 1, 4, 3, 2, 0);
+            }
+            due("out by six SEEDS from " + first, x.span(first, 6, 4, 3, 2, 0), out);
+        }
+    }
+
+    static void promise35_noneAndSix() {
+        HoseDynasty x = Bench.of(Bench.plain(6) + "fire 0 1;");
+        due("the most by 16", x.span(1, 20, 96, 16, 1, 0), 0);
+        due("the fewest by 16", x.span(1, 20, 96, 16, 0, 0), 0);
+        Bench.work(x, "lay 0;lay 1;lay 2;lay 3;lay 4;lay 5;");
+        due("the most by 0", x.span(1, 20, 96, 0, 1, 0), 6);
+        due("the fewest by 0", x.span(1, 20, 96, 0, 0, 0), 6);
     }
 
     static void promise35_thatAreOutThen() {

@@ -1,3 +1,5 @@
+import java.util.function.ToLongFunction;
+
 /** The edges that "Terms" names under "==== 2." (STEPS, HOURS, the water) and "==== 3." (what is asked): a test for each. */
 public final class NightEdgesTest {
     private static final int NONE = Bench.NONE;
@@ -301,36 +303,49 @@ public final class NightEdgesTest {
 
     // ==== 3. what is asked
 
+    /** Each question by itself: nothing stays changed by it, and asked once more it answers the same. */
+    private static void asked(String what, ToLongFunction<HoseDynasty> question) {
+        HoseDynasty x = Bench.rich();
+        String before = Bench.now(x);
+        long answer = question.applyAsLong(x);
+        Bench.dueText("what " + what + " left", Bench.now(x), before);
+        due(what + " once more", question.applyAsLong(x), answer);
+        Bench.keeps(what, Bench::rich, question::applyAsLong);
+    }
+
     static void terms_asked_nothingStaysChanged() {
-        Bench.keeps("asking", Bench::rich, x -> {
-            for (int f = 0; f < 5; f++) {
-                x.brief(f);
-                x.briefly(f, 0);
-                x.needed(f);
-                x.sure(f, 5, 0);
-                x.share(f, 31, 99);
-            }
-            for (int what = 0; what <= 1; what++) {
-                x.chain(what);
-                x.joiner(what);
-                x.leaks(what);
-                x.look(what);
-                x.next(what);
-                x.worst(what);
-            }
-            x.chained(0);
-            x.ahead(99);
-            x.wed();
-            x.street(50, 1, 0);
-            x.year(5, 96, 4, 0);
-            x.span(5, 20, 96, 4, 2, 0);
-            x.would(1, 1, 1, 1, 1, 1, 1, 1, 1);
-            x.fits(0, 1);
-            x.can(0);
-            x.kin(0);
-            x.status(0);
-            x.count(0);
-        });
+        for (int k = 0; k <= 4; k++) {
+            int f = k;
+            asked("fire(" + f + ", 2)", x -> x.fire(f, 2));
+            asked("brief(" + f + ")", x -> x.brief(f));
+            asked("briefly(" + f + ", 0)", x -> x.briefly(f, 0));
+            asked("needed(" + f + ")", x -> x.needed(f));
+            asked("sure(" + f + ", 5, 0)", x -> x.sure(f, 5, 0));
+            asked("share(" + f + ", 31, 99)", x -> x.share(f, 31, 99));
+            asked("span of fire " + f, x -> x.span(5, 20, 96, 4, 2, f));
+        }
+        for (int k = 0; k <= 1; k++) {
+            int what = k;
+            asked("chain(" + what + ")", x -> x.chain(what));
+            asked("chained(" + what + ")", x -> x.chained(what));
+            asked("joiner(" + what + ")", x -> x.joiner(what));
+            asked("leaks(" + what + ")", x -> x.leaks(what));
+            asked("look(" + what + ")", x -> x.look(what));
+            asked("next(" + what + ")", x -> x.next(what));
+            asked("worst(" + what + ")", x -> x.worst(what));
+            asked("street(50, 1, " + what + ")", x -> x.street(50, 1, what));
+            asked("year(5, 96, 4, " + what + ")", x -> x.year(5, 96, 4, what));
+            asked("year(5, 96, 4, " + (what + 2) + ")", x -> x.year(5, 96, 4, what + 2));
+        }
+        asked("ahead(99)", x -> x.ahead(99));
+        asked("wed()", HoseDynasty::wed);
+        asked("would", x -> x.would(1, 1, 1, 1, 1, 1, 1, 1, 1));
+        asked("fits(0, 1)", x -> x.fits(0, 1) ? 1 : 0);
+        asked("can(1)", x -> x.can(1) ? 1 : 0);
+        asked("kin(0)", x -> x.kin(0));
+        asked("status(0)", x -> x.status(0));
+        asked("count(0)", x -> x.count(0));
+        asked("behind(0)", x -> x.behind(0));
     }
 
     static void terms_asked_hoursBeyond500() {
@@ -450,6 +465,15 @@ public final class NightEdgesTest {
         due("as told ahead of turned", turned.briefly(0, 0), 0);
         Bench.law(turned, "turned * 60");
         due("turned, if it must be", turned.briefly(0, 0), 1);
+    }
+
+    /** A row that leaves 99 and one that leaves 0 behind the same PIECE are two rows, each gone on with. */
+    static void terms_short_0And99AreUnlike() {
+        HoseDynasty x = Bench.of("piece 10 0 0 0;piece 10 0 0 0;fire 20 99;");
+        Bench.law(x, "(1 - place) * (1 - turned) * 99 + place * (99 - flow)");
+        due("the first one turned", x.brief(0), 2);
+        due("turned", x.briefly(0, 0), 1);
+        due("as told", x.briefly(0, 1), 2);
     }
 
     static void terms_short_bendsAndBurstsAsNow() {
@@ -579,6 +603,21 @@ public final class NightEdgesTest {
         due("each leak by itself", one.look(1), 1);
         Bench.work(one, "hope 0;");
         due("all the same", one.look(1), 30);
+    }
+
+    static void terms_look_0And99() {
+        HoseDynasty x = Bench.of(Bench.plain(2) + "hope 99;", "lay 0;lay 1;");
+        Bench.law(x, "flow * (1 - place)");
+        due("99 at place 0 by 30, 0 at place 1 by 60", x.look(0), 0);
+        due("30 at the worst", x.look(1), 30);
+    }
+
+    static void terms_wed_theLastTwo() {
+        String others = "piece 1 1 2 0;piece 1 3 4 0;piece 1 5 6 0;piece 1 7 8 0;";
+        due("the foot of the last but one", Bench.of(others + "piece 1 9 0 0;piece 1 0 9 0;").wed(), 1);
+        due("the foot of the last", Bench.of(others + "piece 1 9 0 0;piece 1 0 0 0;").wed(), 1);
+        due("the foot of the last alone", Bench.of(others + "piece 1 9 9 0;piece 1 0 9 0;").wed(), 1);
+        due("neither", Bench.of(others + "piece 1 9 9 0;piece 1 0 0 0;").wed(), 0);
     }
 
     static void terms_wed_noneInTwo() {
@@ -746,6 +785,28 @@ public final class NightEdgesTest {
             due("it lies there by " + first, x.year(first, 1, 0, 1), 1);
             due("bursts of none by " + first, y.year(first, 1, 16, 3), step == 2 ? 1 : 0);
             due("lifted, if it lies there, by " + first, y.year(first, 1, 16, 1), 0);
+        }
+    }
+
+    static void terms_year_goesOnFromNow() {
+        HoseDynasty x = Bench.of("piece 1 0 1 0;piece 1 1 2 0;piece 1 1 3 0;fire 0 60;fire 0 61;",
+            "hope 61;hour;turn 2;lay 1;bend 1 3;again 9[burst 0;];again 9[burst 1;];again 9[burst 2;];", "hope 99;hour;hope 0;");
+        Bench.law(x, "flow + 10 * piece + bends + turned");
+        for (int first = 0; first < 40; first++) {
+            seed = first;
+            drawn(3);
+            int step = drawn(4);
+            due("the ROW by " + first, x.year(first, 1, 0, 1), 2);
+            due("it ARRIVES by " + first, x.year(first, 1, 0, 2), 13);
+            due("bursts by " + first, x.year(first, 1, 0, 3), step == 3 ? 26 : 27);
+            due("out in HOUR 0, to HOUR 8, by " + first, x.span(first, 1, 7, 16, 2, 0), 1);
+            due("it burns again in HOUR 9 by " + first, x.span(first, 1, 8, 16, 2, 0), 0);
+        }
+        HoseDynasty turned = Bench.of("piece 1 0 1 0;piece 1 2 1 0;", "turn 1;lay 0;");
+        for (int first = 0; first < 40; first++) {
+            seed = first;
+            boolean lays = drawn(2) == 1 & drawn(4) == 0;
+            due("one that is turned now is laid by " + first, turned.year(first, 1, 0, 1), lays ? 3 : 1);
         }
     }
 

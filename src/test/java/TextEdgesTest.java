@@ -455,6 +455,17 @@ public final class TextEdgesTest {
         good(WORK, ("again1[".repeat(6) + "];".repeat(6)).repeat(2));
     }
 
+    static void terms_work_nothingStaysOpen() {
+        HoseDynasty x = twoPieces();
+        due("ends within two agains", Bench.work(x, "again 1[again 2[hour;"), Bench.FAULT_1);
+        due("the next is read anew", Bench.work(x, "hour;"), 1);
+        due("nothing to close", Bench.work(x, "hour;];"), Bench.FAULT_1);
+        due("at", x.fault(), 5);
+        due("200 within two agains", Bench.work(x, "again 30[again 30[hour;];];"), 192);
+        due("nothing to close", Bench.work(x, "];"), Bench.FAULT_1);
+        due("six may be open", Bench.work(x, "again 1[".repeat(6) + "hour;" + "];".repeat(6)), 1);
+    }
+
     // BOOK
 
     static void terms_book_upTo60Bytes() {
