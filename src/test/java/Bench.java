@@ -5,7 +5,7 @@ import java.util.Arrays;
 import java.util.Comparator;
 import java.util.NoSuchElementException;
 
-/** What the tests of edges share: texts that are read, answers held against what is due, all of an object at once. */
+/** What the tests share: texts that are read, answers held against what is due, all of an object at once. */
 final class Bench {
     static final int NONE = HoseDynasty.NONE;
     static final int FAULT_1 = -9;
@@ -133,6 +133,7 @@ final class Bench {
         due(kind + " '" + text + "'", read(x, kind, text), answer);
         due("fault of " + kind + " '" + text + "'", x.fault(), at);
         due("bytes behind " + kind + " '" + text + "'", x.count(1), 0);
+        due("works behind " + kind + " '" + text + "'", x.count(2), 0);
     }
 
     /** The last number that is allowed and the first that is not, on both sides, and those that wrap to an allowed one. */

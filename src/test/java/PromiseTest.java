@@ -4,20 +4,15 @@ import java.util.NoSuchElementException;
 public final class PromiseTest {
     private static final String HOUSE = "piece 10 1 2 3;piece 20 2 3 5;piece 5 3 1 0;piece 8 4 4 9;"
         + "collar 1 4;fire 30 40;fire 10 70;fire 0 99;hope 60;";
-    private static int wrong;
-    private static String promise = "";
 
     private interface Call { void go(); }
 
     private static void due(String what, long got, long want) {
-        if (got != want) {
-            wrong++;
-            System.out.println(promise + ": " + what + " answered " + got + ", due is " + want);
-        }
+        Bench.due(what, got, want);
     }
 
     private static void due(String what, boolean got, boolean want) {
-        due(what, got ? 1 : 0, want ? 1 : 0);
+        Bench.due(what, got, want);
     }
 
     private static void throwsUnfit(String what, Call call) {
@@ -38,70 +33,46 @@ public final class PromiseTest {
     }
 
     private static int feed(HoseDynasty x, String text) {
-        for (int i = 0; i < text.length(); i += 20) {
-            int[] five = new int[5];
-            for (int k = 0; k < 20; k++) {
-                five[k / 4] = five[k / 4] << 8 | (i + k < text.length() ? text.charAt(i + k) : 0);
-            }
-            x.feed(five[0], five[1], five[2], five[3], five[4]);
-        }
-        return text.length();
+        return Bench.feed(x, text);
     }
 
     private static int house(HoseDynasty x, String text) {
-        return x.house(feed(x, text));
+        return Bench.house(x, text);
     }
 
     private static int law(HoseDynasty x, String text) {
-        return x.law(feed(x, text));
+        return Bench.law(x, text);
     }
 
     private static int work(HoseDynasty x, String text) {
-        return x.work(feed(x, text));
+        return Bench.work(x, text);
     }
 
     private static int book(HoseDynasty x, String text) {
-        return x.book(feed(x, text));
+        return Bench.book(x, text);
     }
 
-    private static HoseDynasty of(String house) {
-        HoseDynasty x = new HoseDynasty();
-        due("house " + house, house(x, house) >= 0, true);
-        return x;
-    }
-
-    private static HoseDynasty of(String house, String work) {
-        HoseDynasty x = of(house);
-        due("work " + work, work(x, work) >= 0, true);
-        return x;
+    private static HoseDynasty of(String house, String... works) {
+        return Bench.of(house, works);
     }
 
     private static void badHouse(String text, int answer, int at) {
-        HoseDynasty x = new HoseDynasty();
-        due("house " + text, house(x, text), answer);
-        due("fault of house " + text, x.fault(), at);
+        Bench.bad(HoseDynasty::new, Bench.Kind.HOUSE, text, answer, at);
     }
 
     private static void badLaw(String text, int answer, int at) {
-        HoseDynasty x = new HoseDynasty();
-        due("law " + text, law(x, text), answer);
-        due("fault of law " + text, x.fault(), at);
+        Bench.bad(HoseDynasty::new, Bench.Kind.LAW, text, answer, at);
     }
 
     private static void badWork(String text, int answer, int at) {
-        HoseDynasty x = of("piece 1 0 0 0;piece 1 0 0 0;");
-        due("work " + text, work(x, text), answer);
-        due("fault of work " + text, x.fault(), at);
-        due("works behind " + text, x.count(2), 0);
+        Bench.bad(() -> of("piece 1 0 0 0;piece 1 0 0 0;"), Bench.Kind.WORK, text, answer, at);
     }
 
     private static void badBook(String text, int answer, int at) {
-        HoseDynasty x = new HoseDynasty();
-        due("book " + text, book(x, text), answer);
-        due("fault of book " + text, x.fault(), at);
+        Bench.bad(HoseDynasty::new, Bench.Kind.BOOK, text, answer, at);
     }
 
-    private static void newObject() {
+    static void promise01_newObject() {
         HoseDynasty x = new HoseDynasty();
         int[] told = {0, 0, 0, 0, 0, 0, 0, 60, 0, 0, 0, 60};
         for (int what = 0; what < told.length; what++) {
@@ -114,7 +85,7 @@ public final class PromiseTest {
         }
     }
 
-    private static void feeding() {
+    static void promise02_feeding() {
         HoseDynasty x = new HoseDynasty();
         for (int k = 1; k <= 30; k++) {
             due("feed", x.feed(k, k, k, k, k), 20 * k);
@@ -130,7 +101,7 @@ public final class PromiseTest {
         due("it is at", y.fault(), 7);
     }
 
-    private static void housing() {
+    static void promise03_housing() {
         HoseDynasty x = new HoseDynasty();
         due("house", house(x, HOUSE), 4);
         due("without blanks, more blanks", house(x, "hope1;  piece  10  1 2   003  ; hope  2 ; "), 1);
@@ -179,7 +150,7 @@ public final class PromiseTest {
         badHouse("hope1;".repeat(60) + "1", -9, 360);
     }
 
-    private static void houseKeepsOrClears() {
+    static void promise03_houseKeepsOrClears() {
         HoseDynasty x = of(HOUSE, "lay 0;hour;lift;lift;");
         law(x, "7");
         book(x, "0 1;");
@@ -226,7 +197,7 @@ public final class PromiseTest {
         due("the rest is gone", x.count(1), 0);
     }
 
-    private static void lawing() {
+    static void promise04_lawing() {
         HoseDynasty x = new HoseDynasty();
         due("law", law(x, " flow*9/10 - loss + length%4 "), 1);
         due("by it", x.would(50, 4, 7, 0, 0, 0, 0, 0, 0), 45 - 4 + 3);
@@ -291,7 +262,7 @@ public final class PromiseTest {
         due("the law that stays", y.would(50, 0, 1, 0, 0, 0, 0, 0, 0), 0);
     }
 
-    private static void working() {
+    static void promise05_working() {
         HoseDynasty x = of("piece 3 0 1 0;piece 4 1 2 0;piece 5 7 8 0;fire 0 60;");
         due("turn and back", work(x, "turn 0;turn 0;"), 2);
         due("lay", work(x, "lay 0;lay 1;lay 1;lay 2;turn 0;"), 2);
@@ -326,7 +297,7 @@ public final class PromiseTest {
         due("the hour", z.told(3), 500);
     }
 
-    private static void workFaults() {
+    static void promise05_workFaults() {
         badWork("turn 2;", -8, 5);
         badWork("lay 2;", -8, 4);
         badWork("bend 2 10;", -8, 5);
@@ -369,7 +340,7 @@ public final class PromiseTest {
         due("one more", work(y, "hour;hour;"), 2);
     }
 
-    private static void booking() {
+    static void promise06_booking() {
         HoseDynasty x = new HoseDynasty();
         due("book", book(x, "0 1;5 99; 3  0 ;"), 3);
         due("lines", x.told(9), 3);
@@ -391,7 +362,7 @@ public final class PromiseTest {
         due("book(60)", x.book(60), 0);
     }
 
-    private static void faulting() {
+    static void promise07_faulting() {
         HoseDynasty x = new HoseDynasty();
         due("none yet", x.fault(), -1);
         house(x, "hope x");
@@ -406,7 +377,7 @@ public final class PromiseTest {
         due("of a book", x.fault(), 5);
     }
 
-    private static void undoing() {
+    static void promise08_undoing() {
         HoseDynasty x = of(HOUSE, "lay 0;hour;bend 0 2;burst 1;turn 3;hope 99;");
         work(x, "lift;hour;lift;turn 0;lay 2;bend 0 0;burst 1;patch 1;patch 1;turn 3;hope 5;");
         due("refused", x.told(10), 1);
@@ -431,7 +402,7 @@ public final class PromiseTest {
         due("none", x.undo(), -1);
     }
 
-    private static void telling() {
+    static void promise09_telling() {
         HoseDynasty x = of(HOUSE, "hope 99;hour;turn 3;lay 3;lay 0;lay 3;hour;");
         int[] told = {4, 1, 3, 2, 2, 9, 18, 87, 6, 0, 1, 99};
         for (int what = 0; what < told.length; what++) {
@@ -441,7 +412,7 @@ public final class PromiseTest {
         throwsUnfit("told(12)", () -> x.told(12));
     }
 
-    private static void onePiece() {
+    static void promise10_onePiece() {
         HoseDynasty x = of("piece 7 1 2 3;piece 8 4 5 6;", "turn 0;lay 1;bend 0 9;burst 0;");
         int[] told = {7, 2, 1, 3, 9, 1, 1, -1};
         for (int what = 0; what < told.length; what++) {
@@ -455,7 +426,7 @@ public final class PromiseTest {
         throwsUnfit("piece(0, -1)", () -> x.piece(0, -1));
     }
 
-    private static void oneCollar() {
+    static void promise11_oneCollar() {
         HoseDynasty x = of("collar 9 3;collar 0 1;");
         due("collar(0, 0)", x.collar(0, 0), 9);
         due("collar(0, 1)", x.collar(0, 1), 3);
@@ -466,7 +437,7 @@ public final class PromiseTest {
         throwsUnfit("collar(1, -1)", () -> x.collar(1, -1));
     }
 
-    private static void oneFire() {
+    static void promise12_oneFire() {
         HoseDynasty x = of("piece 10 0 0 1;fire 10 59;fire 11 1;fire 0 60;", "hour;lay 0;hour;");
         due("D", x.fire(1, 0), 11);
         due("N", x.fire(0, 1), 59);
@@ -485,7 +456,7 @@ public final class PromiseTest {
         throwsUnfit("fire(0, -1)", () -> x.fire(0, -1));
     }
 
-    private static void theRow() {
+    static void promise13_theRow() {
         HoseDynasty x = of("piece 1 0 0 0;piece 1 0 0 0;piece 1 0 0 0;", "lay 2;lay 0;");
         due("row(0)", x.row(0), 2);
         due("row(1)", x.row(1), 0);
@@ -494,7 +465,7 @@ public final class PromiseTest {
         throwsUnfit("row(-1)", () -> x.row(-1));
     }
 
-    private static void theWaterBehind() {
+    static void promise14_theWaterBehind() {
         HoseDynasty x = of("piece 1 0 0 3;piece 2 0 0 9;piece 3 0 0 0;hope 50;", "lay 1;lay 2;bend 1 2;burst 2;");
         due("behind(0)", x.behind(0), 50 - 9 - 4);
         due("behind(1)", x.behind(1), 37 - 5);
@@ -509,7 +480,7 @@ public final class PromiseTest {
         throwsUnfit("behind(-1)", () -> x.behind(-1));
     }
 
-    private static void wouldBeLeft() {
+    static void promise15_wouldBeLeft() {
         HoseDynasty x = new HoseDynasty();
         due("without law", x.would(99, 9, 30, 9, 9, 5, 1, 99, 5), 99 - 9 - 18 - 45);
         String[] names = {"flow", "loss", "length", "bends", "burst", "place", "turned", "hope", "piece"};
@@ -531,7 +502,7 @@ public final class PromiseTest {
         due("each was refused once", x.status(1), 18);
     }
 
-    private static void fitting() {
+    static void promise16_33_fitting() {
         HoseDynasty x = of("collar 1 4;collar 4 7;");
         due("the same", x.fits(9, 9), true);
         due("joined", x.fits(1, 4), true);
@@ -548,7 +519,7 @@ public final class PromiseTest {
         throwsUnfit("kin(10)", () -> x.kin(10));
     }
 
-    private static void canAndNext() {
+    static void promise17_30_canAndNext() {
         HoseDynasty x = of("piece 1 0 1 0;piece 1 1 2 0;piece 1 3 1 0;piece 1 5 6 0;collar 1 6;");
         due("all at first", x.next(0), 15);
         due("all at first, turned round", x.next(1), 15);
@@ -568,7 +539,7 @@ public final class PromiseTest {
         throwsUnfit("next(-1)", () -> x.next(-1));
     }
 
-    private static void hoursAhead() {
+    static void promise18_hoursAhead() {
         HoseDynasty x = of("piece 5 0 0 5;fire 0 60;fire 5 50;", "hour;lay 0;");
         due("ahead(0)", x.ahead(0), 1);
         due("ahead(1)", x.ahead(1), 3);
@@ -589,7 +560,7 @@ public final class PromiseTest {
         due("beyond 500 fires burn again", late.ahead(9), 0);
     }
 
-    private static void chains() {
+    static void promise19_20_chains() {
         HoseDynasty x = of("piece 9 0 1 0;piece 9 2 1 0;piece 30 5 5 0;");
         due("the longest is not that of most pieces", x.chain(0), 30);
         due("one piece", x.chain(1), 1);
@@ -619,7 +590,7 @@ public final class PromiseTest {
         throwsUnfit("chained(-1)", () -> x.chained(-1));
     }
 
-    private static void shorts() {
+    static void promise21_22_shorts() {
         HoseDynasty x = of("piece 10 0 0 9;piece 10 0 0 1;piece 10 0 0 2;fire 20 58;fire 20 57;fire 0 60;fire 30 60;");
         due("too little is left", x.brief(0), -1);
         due("none of none", x.briefly(0, 0), -1);
@@ -668,7 +639,7 @@ public final class PromiseTest {
         due("turned", turned.briefly(0, 1), 3);
     }
 
-    private static void joiners() {
+    static void promise23_joiners() {
         HoseDynasty x = of("piece 5 0 0 0;piece 7 2 2 0;piece 9 4 4 0;");
         due("the longest then", x.joiner(0), 16);
         due("the threads", x.joiner(1), 24);
@@ -681,7 +652,7 @@ public final class PromiseTest {
         throwsUnfit("joiner(-1)", () -> x.joiner(-1));
     }
 
-    private static void leaking() {
+    static void promise24_25_leaking() {
         HoseDynasty x = of("piece 1 0 0 0;piece 1 0 0 0;piece 1 0 0 0;hope 20;", "lay 0;lay 1;lay 2;");
         due("without lines all are right", x.leaks(0), 90);
         due("the first of all", x.leaks(1), 1);
@@ -723,7 +694,7 @@ public final class PromiseTest {
         throwsUnfit("look(-1)", () -> x.look(-1));
     }
 
-    private static void wedding() {
+    static void promise26_wedding() {
         due("a triangle", of("piece 1 0 0 0;piece 1 0 0 0;piece 1 0 0 0;").wed(), 1);
         due("three pairs", of("piece 1 0 0 0;piece 1 0 0 0;piece 1 0 0 0;".repeat(2)).wed(), 3);
         due("heads do not fit heads", of("piece 1 0 1 0;piece 1 0 2 0;").wed(), 0);
@@ -735,7 +706,7 @@ public final class PromiseTest {
         due("as told, whatever is turned", of("piece 1 0 1 0;piece 1 0 2 0;", "turn 0;").wed(), 0);
     }
 
-    private static void sureness() {
+    static void promise27_sureness() {
         HoseDynasty x = of("piece 1 0 0 0;piece 1 0 0 0;fire 2 55;fire 2 60;fire 2 50;fire 3 1;", "lay 0;lay 1;");
         due("no more than one burst", x.sure(0, 8, 0), 3);
         due("no more than one burst", x.sure(0, 8, 1), 4);
@@ -768,7 +739,7 @@ public final class PromiseTest {
         due("16 to the sixth", six.sure(0, 3, 1), 16777216);
     }
 
-    private static void streets() {
+    static void promise28_streets() {
         HoseDynasty x = of("piece 1 0 0 0;piece 1 0 0 0;hope 50;", "lay 0;lay 1;bend 1 3;");
         due("too dear", x.street(60, 3, 0), 1);
         due("too dear: none, none", x.street(60, 3, 1), 88);
@@ -811,7 +782,7 @@ public final class PromiseTest {
         return x;
     }
 
-    private static void sharing() {
+    static void promise29_sharing() {
         HoseDynasty x = of("fire 0 40;fire 0 70;fire 0 99;");
         due("all", x.share(2, 7, 209), 99);
         due("one less", x.share(2, 7, 208), 98);
@@ -833,7 +804,7 @@ public final class PromiseTest {
         throwsUnfit("share(0, 1, 1000)", () -> x.share(0, 1, 1000));
     }
 
-    private static void worstAndNeeded() {
+    static void promise31_32_worstAndNeeded() {
         HoseDynasty x = of("piece 5 0 0 4;piece 5 0 0 7;piece 5 0 0 7;fire 15 30;fire 16 1;fire 0 99;", "lay 0;lay 1;lay 2;");
         due("the first of alike ones", x.worst(0), 1);
         due("how much", x.worst(1), 7);
@@ -866,7 +837,7 @@ public final class PromiseTest {
         return (drawnSeed >> 16 & 0x7fff) % by;
     }
 
-    private static void yearsBySeeds() {
+    static void promise34_yearsBySeeds() {
         HoseDynasty x = of("piece 5 0 0 0;fire 5 55;fire 0 60;");
         for (int seed = -3; seed < 40; seed++) {
             drawnSeed = seed * 99991;
@@ -896,7 +867,7 @@ public final class PromiseTest {
         throwsUnfit("year(0, 1, 0, -1)", () -> x.year(0, 1, 0, -1));
     }
 
-    private static void spans() {
+    static void promise35_spans() {
         HoseDynasty x = of("piece 5 0 0 0;piece 4 0 1 2;piece 4 1 0 9;fire 5 55;fire 0 60;");
         for (int hours = 1; hours < 40; hours += 7) {
             int fewest = 9;
@@ -931,7 +902,7 @@ public final class PromiseTest {
         throwsUnfit("span: what -1", () -> x.span(0, 1, 1, 0, -1, 0));
     }
 
-    private static void images() {
+    static void promise36_37_images() {
         HoseDynasty x = of(HOUSE, "lay 0;hour;");
         due("image", x.image(), 1);
         work(x, "lay 1;bend 0 5;burst 2;turn 3;hope 9;hour;lift;lift;lift;");
@@ -980,7 +951,7 @@ public final class PromiseTest {
         due("nothing was done by it", x.told(10), 1);
     }
 
-    private static void counts() {
+    static void promise38_39_counts() {
         HoseDynasty x = of(HOUSE);
         due("status(0)", x.status(0), 0);
         due("status(1)", x.status(1), 0);
@@ -1008,48 +979,7 @@ public final class PromiseTest {
         due("neither is refused", x.status(1), 3);
     }
 
-    private static void check(String name, Call call) {
-        promise = name;
-        call.go();
-    }
-
     public static void main(String[] args) {
-        check("promise 1", PromiseTest::newObject);
-        check("promise 2", PromiseTest::feeding);
-        check("promise 3", PromiseTest::housing);
-        check("promise 3", PromiseTest::houseKeepsOrClears);
-        check("promise 4", PromiseTest::lawing);
-        check("promise 5", PromiseTest::working);
-        check("promise 5", PromiseTest::workFaults);
-        check("promise 6", PromiseTest::booking);
-        check("promise 7", PromiseTest::faulting);
-        check("promise 8", PromiseTest::undoing);
-        check("promise 9", PromiseTest::telling);
-        check("promise 10", PromiseTest::onePiece);
-        check("promise 11", PromiseTest::oneCollar);
-        check("promise 12", PromiseTest::oneFire);
-        check("promise 13", PromiseTest::theRow);
-        check("promise 14", PromiseTest::theWaterBehind);
-        check("promise 15", PromiseTest::wouldBeLeft);
-        check("promises 16, 33", PromiseTest::fitting);
-        check("promises 17, 30", PromiseTest::canAndNext);
-        check("promise 18", PromiseTest::hoursAhead);
-        check("promises 19, 20", PromiseTest::chains);
-        check("promises 21, 22", PromiseTest::shorts);
-        check("promise 23", PromiseTest::joiners);
-        check("promises 24, 25", PromiseTest::leaking);
-        check("promise 26", PromiseTest::wedding);
-        check("promise 27", PromiseTest::sureness);
-        check("promise 28", PromiseTest::streets);
-        check("promise 29", PromiseTest::sharing);
-        check("promises 31, 32", PromiseTest::worstAndNeeded);
-        check("promise 34", PromiseTest::yearsBySeeds);
-        check("promise 35", PromiseTest::spans);
-        check("promises 36, 37", PromiseTest::images);
-        check("promises 38, 39", PromiseTest::counts);
-        System.out.println(wrong == 0 ? "all promises hold" : wrong + " answers are not as due");
-        if (wrong != 0) {
-            System.exit(1);
-        }
+        Bench.run(PromiseTest.class);
     }
 }
