@@ -467,13 +467,27 @@ public final class NightEdgesTest {
         due("turned, if it must be", turned.briefly(0, 0), 1);
     }
 
-    /** A row that leaves 99 and one that leaves 0 behind the same PIECE are two rows, each gone on with. */
+    /** A row that leaves much and one that leaves 0 behind the same PIECE are two rows, each gone on with. */
     static void terms_short_0And99AreUnlike() {
-        HoseDynasty x = Bench.of("piece 10 0 0 0;piece 10 0 0 0;fire 20 99;");
-        Bench.law(x, "(1 - place) * (1 - turned) * 99 + place * (99 - flow)");
-        due("the first one turned", x.brief(0), 2);
-        due("turned", x.briefly(0, 0), 1);
-        due("as told", x.briefly(0, 1), 2);
+        for (int much = 90; much <= 99; much++) {
+            HoseDynasty x = Bench.of("piece 10 0 0 0;piece 10 0 0 0;fire 20 " + much + ";");
+            Bench.law(x, "(1 - place) * (1 - turned) * " + much + " + place * (" + much + " - flow)");
+            due("the first one turned", x.brief(0), 2);
+            due("turned", x.briefly(0, 0), 1);
+            due("as told", x.briefly(0, 1), 2);
+        }
+    }
+
+    /** One less behind the same PIECES in another order: too little. */
+    static void terms_short_oneLessIsUnlike() {
+        for (int hope = 5; hope <= 99; hope++) {
+            HoseDynasty x = Bench.of("piece 1 0 0 0;piece 1 0 0 0;piece 1 0 9 0;fire 3 " + (hope - 4) + ";hope " + hope + ";");
+            Bench.law(x, "flow - piece * place");
+            due("three by hope " + hope, x.brief(0), 3);
+            due("PIECE 1, by hope " + hope, x.briefly(0, 0), 2);
+            due("then 0, by hope " + hope, x.briefly(0, 1), 0);
+            due("then 2, by hope " + hope, x.briefly(0, 2), 4);
+        }
     }
 
     static void terms_short_bendsAndBurstsAsNow() {
