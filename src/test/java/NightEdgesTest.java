@@ -490,6 +490,28 @@ public final class NightEdgesTest {
         }
     }
 
+    private static void isShort(String house, String law, int... ways) {
+        HoseDynasty x = Bench.of(house);
+        Bench.law(x, law);
+        due("how many by " + law, x.brief(0), ways.length);
+        for (int k = 0; k < ways.length; k++) {
+            due("the one of place " + k + " by " + law, x.briefly(0, k), ways[k]);
+        }
+        due("no more by " + law, x.briefly(0, ways.length), NONE);
+    }
+
+    /** Answers by trying all rows (Model): many rows, of which few leave enough. */
+    static void terms_short_amongManyRows() {
+        isShort("piece 1 1 0 1;piece 1 0 1 6;piece 1 1 0 9;piece 1 0 0 6;piece 1 1 0 3;piece 1 1 0 7;fire 5 31;hope 66;",
+            "flow - loss - place * piece", 8, 6, 5, 3, 1);
+        isShort("piece 1 1 0 8;piece 1 0 0 5;piece 1 1 1 9;piece 1 0 1 3;piece 1 0 1 7;piece 1 0 1 5;fire 3 80;hope 21;",
+            "(flow * 7 + piece) % 100", 2, 8, 0);
+        isShort("piece 1 0 1 0;piece 1 0 1 5;piece 1 1 0 6;piece 1 1 1 3;piece 1 0 0 9;piece 1 1 1 0;fire 6 22;hope 68;",
+            "flow - loss * place", 2, 4, 8, 0, 6, 10);
+        isShort("piece 1 0 1 1;piece 1 0 1 8;piece 1 1 1 3;piece 1 0 1 9;piece 1 0 0 2;fire 5 97;hope 51;",
+            "(flow * 7 + piece) % 100", 4, 7, 0, 3, 8);
+    }
+
     static void terms_short_bendsAndBurstsAsNow() {
         HoseDynasty x = Bench.of("piece 10 0 0 0;piece 10 0 0 0;fire 10 60;fire 10 55;fire 10 58;", "burst 0;bend 1 1;");
         due("neither", x.brief(0), NONE);
